@@ -142,6 +142,14 @@ public final class PromisesTest {
         fault("s0 1 0 1", 8);
         fault("s", 1);
         fault("n4;l", 4);
+        fault("h", 1);
+        fault("h11", 3);
+        fault("n12", 3);
+        fault("s0", 2);
+        fault("s0 1", 4);
+        fault("s0 1 0", 6);
+        fault("sz", 0);
+        fault("la1;", 0);
     }
 
     private static void fault(String text, int place) {
@@ -179,6 +187,19 @@ public final class PromisesTest {
         due.is("4 read anew, image 1", x.back(1), STATE);
         due.is("4 read anew, undo()", x.undo(), STATE);
         due.is("4 read anew, the trace stays", x.trace(), 1);
+        Due.tell(x, "n9;l9;h1;h2;s0 1 0 1;s0 1 0 1;");
+        x.hushes(1);
+        x.ticks(8);
+        Due.tell(x, "h4;");
+        due.is("4 read anew, nothing told", Due.tell(x, ""), 0);
+        int[] first = {12, 0, 1, 0, 0, 0, 0};
+        for (int what = 0; what < first.length; what++) {
+            due.is("4 read anew, nothing told, count(" + what + ")", x.count(what), first[what]);
+        }
+        due.is("4 read anew, nothing told, the tick", x.now(0), 0);
+        due.is("4 read anew, said then", x.says(0, 1, 0, 5), 0);
+        x.says(0, 1, 0, 6);
+        due.is("4 read anew, none is hushed", x.now(1), 3);
     }
 
     private static void promise5Saying() {
@@ -374,6 +395,9 @@ public final class PromisesTest {
         WhisperRing x = Due.told("n6;s0 1 0 9;s4 1 1 9;s1 1 0 9;s0 2 0 1;s3 6 0 2;");
         due.is("13 meet(0, 1)", x.meet(0, 1), 2);
         due.is("13 meet(1, 0)", x.meet(1, 0), 2);
+        due.is("13 meet(4, 2), breath first", x.meet(4, 2), NONE);
+        due.is("13 meet(4, 3), breath both", x.meet(4, 3), NONE);
+        due.is("13 meet(3, 0), at once, with 1", x.meet(3, 0), 0);
         due.is("13 meet(0, 2), never", x.meet(0, 2), NONE);
         due.is("13 meet(0, 3), at once", x.meet(0, 3), 0);
         due.is("13 meet(2, 4), but as breath", x.meet(2, 4), NONE);
@@ -405,6 +429,12 @@ public final class PromisesTest {
         WhisperRing y = Due.told("n24;s0 6 0 30;s6 6 0 30;s12 6 0 30;s18 6 0 30;");
         due.is("14 wait till it is less loud", y.best(0, 0, 1, 0, 7), 96);
         due.is("14 too long", y.best(0, 0, 1, 0, 6), NONE);
+        // One at each of 8 places: 30 less an eighth of the tick; 17 at tick 104.
+        WhisperRing z = Due.told("n8;s0 1 0 30;s1 1 0 30;s2 1 0 30;s3 1 0 30;s4 1 0 30;s5 1 0 30;s6 1 0 30;s7 1 0 30;");
+        z.ticks(4);
+        due.is("14 100 is too long", z.best(0, 0, 1, 0, 18), NONE);
+        z.ticks(1);
+        due.is("14 99 is not", z.best(0, 0, 1, 0, 18), 99);
         WhisperRing full = Due.told("n4;s0 1 0 1;s0 1 0 1;s0 1 0 1;s0 1 0 1;s0 1 0 1;s0 1 0 1;s0 1 0 1;s0 1 0 1;");
         due.is("14 eight sayings are no matter", full.best(1, 1, 1, 0, 30), 0);
         due.is("14 nothing is said", full.count(1), 8);
@@ -430,6 +460,8 @@ public final class PromisesTest {
         due.is("15 stills(5), hushed", x.stills(5), NONE);
         due.is("15 stills(7)", x.stills(7), BAD);
         due.is("15 stills(-1)", x.stills(-1), BAD);
+        due.is("15 as loud is not louder", Due.told("s0 1 0 3;s0 1 0 3;").stills(0), 2);
+        due.is("15 louder by itself", Due.told("s0 1 0 4;s0 1 0 3;").stills(0), 0);
         // 4 against 3 and 3: the least of two sets of one.
         due.is("15 the least set", Due.told("s0 1 0 3;s0 1 0 4;s0 1 0 3;").stills(1), 1);
     }
@@ -522,6 +554,10 @@ public final class PromisesTest {
         due.is("19 ticks don't matter", x.guesses(0), 2);
         due.is("19 guesses(2)", x.guesses(2), BAD);
         due.is("19 guesses(-1)", x.guesses(-1), BAD);
+        WhisperRing left = Due.told("n24;");
+        left.hears(5, 0, 1);
+        left.hears(1, 1, 1);
+        due.is("19 4 to the left", left.guesses(1), 541);
         due.is("19 guesses(0) of 24", Due.told("n24;").guesses(0), 288);
     }
 
@@ -616,8 +652,39 @@ public final class PromisesTest {
         due.is("23 undo hushes", x.undo(), 1);
         due.is("23 strength again", x.saying(0, 6), 9);
         due.is("22 keep(0) over another", x.keep(0), 3);
+        wholeImage();
         x.undo();
         due.is("23 back(0), the later one", x.back(0), 3);
+    }
+
+    private static void wholeImage() {
+        WhisperRing x = new WhisperRing();
+        x.says(3, 4, 1, 20);
+        x.ticks(2);
+        x.says(5, 2, 0, 10);
+        x.hushes(0);
+        x.keep(1);
+        for (int i = 0; i < 4; i++) {
+            x.undo();
+        }
+        x.ticks(7);
+        x.ticks(8);
+        x.says(0, 1, 0, 1);
+        x.says(1, 1, 1, 2);
+        x.hushes(1);
+        due.is("23 the tick of a whole image", x.back(1), 2);
+        int[][] sayings = {{3, 4, 1, 20, 7, 0, 0, 1}, {5, 2, 0, 10, 5, 0, 10, 0}};
+        for (int s = 0; s < 2; s++) {
+            for (int what = 0; what < 8; what++) {
+                due.is("23 saying(" + s + ", " + what + ") of an image", x.saying(s, what), sayings[s][what]);
+            }
+        }
+        due.is("23 undo what was hushed", x.undo(), 3);
+        due.is("23 both sound", x.now(1), 3);
+        due.is("23 undo what was said", x.undo(), 2);
+        due.is("23 one", x.count(1), 1);
+        due.is("23 undo the ticks", x.undo(), 1);
+        due.is("23 tick 0", x.now(0), 0);
     }
 
     private static void promise24Count() {

@@ -90,6 +90,8 @@ public final class RulesTest {
             int own = 0;
             for (Field f : c.getDeclaredFields()) {
                 own += Modifier.isStatic(f.getModifiers()) ? 0 : 1;
+                due.holds(f + " is final if it is static",
+                    !Modifier.isStatic(f.getModifiers()) || Modifier.isFinal(f.getModifiers()));
             }
             due.holds(c + " has at most twenty fields", own <= 20);
         }
